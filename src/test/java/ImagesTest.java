@@ -6,9 +6,11 @@ public final class ImagesTest {
     public static void main(String[] args) {
         bounds();
         allComesBack();
+        sightsComeBack();
         twoImages();
         notInImages();
         counts();
+        lastOnes();
         due.end();
     }
 
@@ -48,12 +50,33 @@ public final class ImagesTest {
         m.grow();
         m.forget(0);
         m.see(0, 2, 0, true);
+        m.see(7, 1, 30, true);
+        m.see(9, 2, 11, false);
         due.holds("changed", !before.equals(Due.all(m)));
         due.is("back", m.back(0), 3);
         due.holds("all as it was", before.equals(Due.all(m)));
         m.go(9);
         due.is("back again", m.back(0), 3);
         due.holds("all as it was", before.equals(Due.all(m)));
+    }
+
+    /** Each number of what was SEEN decides whether it is so. */
+    private static void sightsComeBack() {
+        CrabMint m = Due.told("coin 4 1;coin 5 3;crab right 4 4 0;");
+        m.see(2, 0, 10, true);
+        m.see(1, 1, 3, true);
+        due.is("so", m.wrong(), 16);
+        m.keep(1);
+        m.forget(0);
+        m.see(1, 1, 2, false);
+        m.see(0, 0, 1, false);
+        m.see(0, 0, 1, true);
+        due.is("not so", m.wrong(), 0);
+        m.back(1);
+        due.is("two", m.count(5), 2);
+        due.is("so again", m.wrong(), 16);
+        m.lie(1, 2);
+        due.is("where and is", m.wrong(), 0);
     }
 
     private static void twoImages() {
@@ -108,6 +131,15 @@ public final class ImagesTest {
         due.is("cells", m.count(8), 40);
         due.is("what -1", m.count(-1), BAD);
         due.is("what 9", m.count(9), BAD);
+    }
+
+    private static void lastOnes() {
+        CrabMint m = Due.told("places 8;hole 7 9;coin 9 7;crab left 1 1 0;crab left 1 1 0;crab left 1 1 0;crab left 9 9 7;");
+        due.is("lying at 7", m.count(0), 1);
+        m.go(1);
+        due.is("held by 3", m.count(1), 1);
+        m.go(1);
+        due.is("in the hole at 7", m.count(2), 1);
     }
 
     private static int[] counted(CrabMint m) {

@@ -64,7 +64,10 @@ public final class SortedTest {
         ordersAre("crab left 1 1 0;crab left 1 1 0;crab left 1 1 0;", 6, 0, 0, 1, 2);
         ordersAre("places 8;hole 1 5;coin 4 0;crab left 1 1 0;crab left 5 9 0;crab left 5 9 0;crab right 4 5 0;",
             8, 3, 0, 3, 1, 2);
+        ordersAre("places 8;hole 7 9;coin 5 0;coin 5 0;coin 5 0;coin 5 0;crab right 5 9 7;", 1, 40, 0);
         CrabMint m = Due.told(TWO_WAYS);
+        due.is("asked once", m.orders(0), 2);
+        due.is("asked again", m.orders(0), 2);
         for (int what : new int[] {-1, 2, 9, 14, 24, Integer.MIN_VALUE, Integer.MAX_VALUE}) {
             due.is("what " + what, m.orders(what), BAD);
         }
@@ -122,6 +125,12 @@ public final class SortedTest {
         String amiss = "places 3;hole 1 9;hole 2 9;coin 4 0;crab left 4 9 0;";
         due.is("now", Due.told(amiss).sorted(), NONE);
         betterIs(Due.told(amiss), "one that fits the shell", 9, 2);
+        String blocked = "places 8;hole 6 9;hole 7 8;coin 5 0;coin 5 0;coin 5 0;coin 5 0;crab right 5 9 ";
+        betterIs(Due.told(blocked + "6;"), "the last of 40 steps", 71, 40);
+        betterIs(Due.told(blocked + "5;"), "41 steps", NONE, NONE);
+        String apart = "places 8;hole 6 9;hole 7 9;coin 4 5;crab right 4 9 ";
+        due.is("now", Due.told(apart + "5;").sorted(), 3);
+        betterIs(Due.told(apart + "5;"), "sooner by one", 59, 2);
         CrabMint m = Due.told(TWO_WAYS);
         due.is("bad", m.better(-1), BAD);
         due.is("bad", m.better(2), BAD);

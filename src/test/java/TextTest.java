@@ -66,6 +66,12 @@ public final class TextTest {
         m.end(9);
         due.is("hole 2 5;", m.text(), 1);
         due.is("hole 2", m.hole(2), 5);
+        Due.feed(m, "tide 1 11");
+        m.end(8);
+        due.is("bytes behind the end are gone", m.text(), -18);
+        Due.feed(m, "hole 1 2;coin 1 1;");
+        m.end(9);
+        due.is("bytes behind the end are gone", m.text(), 1);
         due.is("a byte above 127", Due.tell(m, "hole 1 2;" + (char) 233), -19);
         due.is("is no TOKEN", m.fault(), 1);
     }
@@ -100,8 +106,10 @@ public final class TextTest {
         due.is("back", m.back(1), CrabMint.STATE);
         due.is("sheets stay", m.count(8), 5);
         due.are("coin", Due.coin(m, 0), 4, 0, 3, 1);
-        Due.tell(m, "places 8;");
+        due.is("tide again", Due.tell(m, "places 8;hole 0 5;hole 7 5;tide 3 3;"), 4);
+        due.is("tide again", Due.tell(m, "places 8;tide 2 2;"), 2);
         due.is("no hole of the first text", m.hole(7), 0);
+        due.is("no hole of the first text", m.hole(0), 0);
         due.is("empty text", m.text(), 0);
         due.is("places again", m.rule(0), 4);
     }
@@ -184,6 +192,10 @@ public final class TextTest {
         fault("tide 1;", 2, 6);
         fault("tide 1 1 1;", 2, 9);
         fault("left", 2, 0);
+        fault("xole 1 3;", 2, 0);
+        fault("holx 1 3;", 2, 0);
+        fault("az", 2, 0);
+        fault("hole z;", 2, 5);
         fault("false;", 2, 0);
     }
 
