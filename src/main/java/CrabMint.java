@@ -47,8 +47,8 @@ public final class CrabMint {
     private final Beach trial = new Beach();
     private final Sights sights = new Sights();
     private final Orders tried = new Orders();
-    private final Tape tape = new Tape();
-    private final Teller teller = new Teller(tape);
+    private final Teller teller = new Teller();
+    private final Tape tape = teller.tape;
     private final Image[] images = new Image[IMAGES];
     private final Sheet[] sheets = new Sheet[SHEETS];
     private int tornBy;
@@ -779,8 +779,7 @@ public final class CrabMint {
         private void act(int k) {
             Crab crab = crabs[k];
             if (crab.holds()) {
-                int size = holes[crab.place];
-                if (size > 0 && size >= crab.shell) {
+                if (holes[crab.place] >= crab.shell) {
                     coins[crab.held].where = IN_HOLE + crab.place;
                     crab.held = NOTHING;
                 } else {
@@ -1048,20 +1047,16 @@ public final class CrabMint {
         private static final int TOO_MANY = 5;
         private static final int NO_PLACE = 6;
 
+        final Tape tape = new Tape();
         final Beach told = new Beach();
         int fault;
         int faultPlace;
-        private final Tape tape;
         private boolean placesTold;
         private boolean tideTold;
         private int kind;
         private int from;
         private int to;
         private int value;
-
-        Teller(Tape tape) {
-            this.tape = tape;
-        }
 
         /** How many lines were taken; whether all were is told by the fault. */
         int tellAll() {

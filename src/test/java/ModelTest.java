@@ -61,10 +61,10 @@ public final class ModelTest {
         int size = 1 + random.nextInt(9);
         int x = random.nextInt(random.nextInt(30) == 0 ? 9 : places);
         switch (random.nextInt(9)) {
-            case 0, 1: return "hole " + x + " " + size + ";";
+            case 0, 1: return "hole " + x + " " + Math.max(size, upTo(9)) + ";";
             case 2, 3, 4: return "coin " + (1 + upTo(5)) + " " + x + (random.nextInt(5) == 0 ? " false;" : ";");
             case 5, 6, 7: return "crab " + (random.nextBoolean() ? "left " : "right ") + (1 + upTo(6)) + " "
-                + (1 + upTo(random.nextInt(9))) + " " + x + ";";
+                + (1 + upTo(random.nextInt(4))) + " " + x + ";";
             default: return random.nextInt(3) == 0 ? "tide " + near(1, 9) + " " + near(0, 8) + ";" : " ";
         }
     }
@@ -101,6 +101,7 @@ public final class ModelTest {
             due("text() of " + text, lines, model.text());
             due("fault()", mint.fault(), model.fault());
             if (lines > 4) {
+                due("keep(0)", mint.keep(0), model.keep(0));
                 return;
             }
         }
@@ -153,13 +154,14 @@ public final class ModelTest {
             case 3: due("fake " + c + " " + is, mint.fake(c, is), model.fake(c, is)); break;
             case 4: due("set " + k + " " + x, mint.set(k, x), model.set(k, x)); break;
             case 5: int h = near(0, 1); due("hand " + k + " " + h, mint.hand(k, h), model.hand(k, h)); break;
-            case 6: due("tide " + v + " " + w, mint.tide(v, w), model.tide(v, w)); break;
+            case 6: if (random.nextInt(4) > 0) { v = 0; }
+                due("tide " + v + " " + w, mint.tide(v, w), model.tide(v, w)); break;
             default: due("lie " + c + " " + x, mint.lie(c, x), model.lie(c, x)); break;
         }
     }
 
     private void steps() {
-        int n = random.nextBoolean() ? upTo(4) : near(0, 60), c = near(0, 5);
+        int n = random.nextInt(8) > 0 ? upTo(3) : near(0, 60), c = near(0, 5);
         int seed = random.nextInt(), what = near(0, 1), many = near(1, 60);
         switch (random.nextInt(9)) {
             case 0, 1, 2, 3: due("go " + n, mint.go(n), model.go(n)); break;
@@ -182,11 +184,12 @@ public final class ModelTest {
     }
 
     private void seen() {
-        int n = near(0, 20), c = near(0, 5), f = near(0, 8), what = near(0, 3);
+        int n = random.nextBoolean() ? upTo(5) : near(0, 20), c = near(0, 3), f = near(0, 3), what = near(0, 3);
         int where = near(0, 31);
-        boolean is = random.nextInt(5) == 0;
-        if (is && random.nextInt(4) != 0) {
+        boolean is = random.nextInt(20) == 0;
+        if (random.nextBoolean()) {
             where = mint.ahead(c, n);
+            is = random.nextInt(8) != 0;
         }
         switch (random.nextInt(6)) {
             case 0, 1: due("see " + n + " " + c + " " + where + " " + is, mint.see(n, c, where, is),
@@ -199,7 +202,7 @@ public final class ModelTest {
 
     private void images() {
         int k = near(0, 1);
-        if (random.nextInt(3) > 0) {
+        if (random.nextInt(4) == 0) {
             due("keep " + k, mint.keep(k), model.keep(k));
         } else {
             due("back " + k, mint.back(k), model.back(k));
@@ -207,8 +210,12 @@ public final class ModelTest {
     }
 
     private void sheets() {
-        int k = near(0, random.nextInt(4)), lane = near(0, random.nextInt(3)), n = near(0, 40);
+        int k = near(0, random.nextInt(4)), lane = random.nextInt(6) > 0 ? k % 3 : near(0, 2);
+        int n = random.nextBoolean() ? near(0, 12) : near(0, 40);
         int i = near(0, 12), v = near(0, 9), f = near(0, 8), many = near(0, random.nextInt(14));
+        if (random.nextBoolean()) {
+            v = 1 + upTo(1);
+        }
         switch (random.nextInt(8)) {
             case 0: due("sheet " + k + " " + lane + " " + n, mint.sheet(k, lane, n), model.sheet(k, lane, n)); break;
             case 1, 2, 3, 4: due("lay " + k + " " + i + " " + v, mint.lay(k, i, v), model.lay(k, i, v)); break;

@@ -188,6 +188,10 @@ public final class StepTest {
     private static void grow() {
         CrabMint m = new CrabMint();
         due.is("no crabs", m.grow(), CrabMint.STATE);
+        m = Due.told("crab left 2 1 0;crab left 3 1 0;crab left 4 1 0;crab left 8 1 0;");
+        due.is("a week of four", m.grow(), 9);
+        Due.tell(m, "crab left 1 1 0;");
+        due.is("of those that are", m.grow(), 2);
         m = Due.told("crab left 7 1 0;crab left 3 9 0;");
         due.is("a week", m.grow(), 8);
         due.are("crab 0", Due.crab(m, 0), 8, 2, 0, 0, NONE);
