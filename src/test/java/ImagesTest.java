@@ -77,6 +77,16 @@ public final class ImagesTest {
         due.is("so again", m.wrong(), 16);
         m.lie(1, 2);
         due.is("where and is", m.wrong(), 0);
+        m.lie(1, 3);
+        for (int i = 2; i < 8; i++) {
+            m.see(1, 1, 3, true);
+        }
+        due.is("eight", m.wrong(), 16);
+        m.keep(0);
+        m.forget(0);
+        m.back(0);
+        due.is("eight come back", m.count(5), 8);
+        due.is("so again", m.wrong(), 16);
     }
 
     private static void twoImages() {

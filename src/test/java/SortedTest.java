@@ -37,6 +37,8 @@ public final class SortedTest {
         m.set(0, 3);
         m.go(1);
         due.is("tide by the step", m.sorted(), NONE);
+        String six = "hole 0 9;coin 5 0;coin 5 0;coin 5 0;coin 5 0;coin 5 0;coin 5 0;crab left 5 9 0;";
+        due.is("six coins, take and drop", Due.told(six).sorted(), 12);
         String four = "places 8;hole 7 9;coin 5 0;coin 5 0;coin 5 0;coin 5 0;crab right 5 9 ";
         due.is("39", Due.told(four + "0;").sorted(), 39);
         due.is("40", Due.told(four + "7;").sorted(), 40);

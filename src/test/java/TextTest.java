@@ -112,6 +112,10 @@ public final class TextTest {
         due.is("no hole of the first text", m.hole(0), 0);
         due.is("empty text", m.text(), 0);
         due.is("places again", m.rule(0), 4);
+        Due.tell(m, "coin 4 0;crab left 4 4 0;");
+        Due.tell(m, "hole 0 9;coin 4 0;");
+        due.is("no crab of the text before acts", m.go(2), 0);
+        due.is("coin", m.coin(0, 2), 0);
     }
 
     private static void fault(String text, int which, int place) {
