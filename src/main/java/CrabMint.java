@@ -446,11 +446,11 @@ public final class CrabMint {
         }
         Sheet row = sheets[k];
         int before = now.coinCount;
-        int fault = row.faultAs(lane);
+        int fault = 0;
         int came = 0;
         while (fault == 0 && came < n) {
             int cell = f + 2 * came;
-            fault = row.faultAtPair(cell);
+            fault = row.faultAtPair(lane, cell);
             if (fault == 0) {
                 if (mint(row.cells[cell], row.cells[cell + 1]) < 0) {
                     now.coinCount = before;
@@ -1273,14 +1273,13 @@ public final class CrabMint {
             return within(i, 0, length - 1) ? 0 : INDEX_FAULT;
         }
 
-        int faultAtPair(int i) {
+        /** The row is taken as of a lane for each COIN that is read of it, so that reading none finds no FAULT. */
+        int faultAtPair(int wanted, int i) {
+            if (lane != NOTHING && lane != wanted) {
+                return CAST_FAULT;
+            }
             int fault = faultAt(i);
             return fault == 0 ? faultAt(i + 1) : fault;
-        }
-
-        /** Nothing can be taken as of any lane: that it is nothing shows when a CELL is asked for. */
-        int faultAs(int wanted) {
-            return lane == NOTHING || lane == wanted ? 0 : CAST_FAULT;
         }
 
         void put(int i, int v) {

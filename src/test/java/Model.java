@@ -730,10 +730,10 @@ final class Model {
         int came = 0;
         int found = 0;
         try {
-            byte[] b = lane == 0 ? (byte[]) sheets[k] : null;
-            short[] s = lane == 1 ? (short[]) sheets[k] : null;
-            int[] w = lane == 2 ? (int[]) sheets[k] : null;
             for (; came < n; came++) {
+                byte[] b = lane == 0 ? (byte[]) sheets[k] : null;
+                short[] s = lane == 1 ? (short[]) sheets[k] : null;
+                int[] w = lane == 2 ? (int[]) sheets[k] : null;
                 int i = f + 2 * came;
                 int size = lane == 0 ? b[i] : lane == 1 ? s[i] : w[i];
                 int x = lane == 0 ? b[i + 1] : lane == 1 ? s[i + 1] : w[i + 1];

@@ -164,14 +164,29 @@ public final class SheetsTest {
         due.is("index", m.torn(), 2);
     }
 
-    /** With no COIN to read, a SHEET is still taken as of a lane; that it is nothing is met by no CELL. */
+    /** With no COIN to read the machine has nothing to refuse, and the FAULT of the read() before is gone. */
     private static void readNone() {
+        for (int cells = 0; cells <= 4; cells += 4) {
+            for (int lane = 0; lane < 3; lane++) {
+                for (int as = 0; as < 3; as++) {
+                    CrabMint m = withRow(lane, cells);
+                    due.is("of nothing", m.read(1, as, 0, 1), 0);
+                    due.is("null", m.torn(), 1);
+                    due.is("none of lane " + lane + " as " + as, m.read(0, as, 0, 0), 0);
+                    due.is("no fault", m.torn(), 0);
+                }
+            }
+        }
         CrabMint m = withRow(0, 4);
-        due.is("none of another lane", m.read(0, 1, 0, 0), 0);
+        due.is("another lane", m.read(0, 1, 0, 1), 0);
         due.is("cast", m.torn(), 3);
         due.is("none of nothing", m.read(1, 1, 0, 0), 0);
         due.is("nothing was met", m.torn(), 0);
+        due.is("another lane", m.read(0, 2, 0, 13), 0);
+        due.is("cast", m.torn(), 3);
         due.is("none from afar", m.read(0, 0, -9, 0), 0);
+        due.is("no cell was met", m.torn(), 0);
+        due.is("none from afar, of another lane", m.read(0, 2, -9, 0), 0);
         due.is("no cell was met", m.torn(), 0);
     }
 }
