@@ -2,8 +2,10 @@ import java.util.Random;
 
 /** Long runs of calls by fixed seeds: every answer is the model's, no call throws. */
 public final class ModelTest {
-    private static final int RUNS = 600;
-    private static final int CALLS = 400;
+    private static final int RUNS = 700;
+
+    /** An object is used for 512 calls at most; the last text begun, and what is asked with it, must find room behind these. */
+    private static final int CALLS = 450;
     private static final String[] WORDS = {"places", "hole", "coin", "crab", "tide", "left", "right", "false", ";", " ",
         "0", "1", "9", "10", "123", "x", ",", "  "};
 
@@ -11,6 +13,7 @@ public final class ModelTest {
     private final CrabMint mint = new CrabMint();
     private final Model model = new Model();
     private final StringBuilder told = new StringBuilder();
+    private int calls;
     private boolean differs;
 
     private ModelTest(long seed) {
@@ -22,7 +25,7 @@ public final class ModelTest {
         for (int run = 0; run < RUNS; run++) {
             ModelTest test = new ModelTest(run);
             test.text();
-            for (int i = 0; i < CALLS && !test.differs; i++) {
+            for (int i = 0; i < CALLS && test.calls < CALLS && !test.differs; i++) {
                 test.call();
             }
             if (test.differs) {
@@ -50,6 +53,7 @@ public final class ModelTest {
     }
 
     private void due(String call, int got, int want) {
+        calls++;
         told.append("\n  ").append(call).append(" -> ").append(got);
         if (got != want) {
             told.append(", the model: ").append(want);
@@ -86,7 +90,7 @@ public final class ModelTest {
 
     private void text() {
         int tries = random.nextInt(4) == 0 ? 1 : 8;
-        for (int i = 0; i < tries; i++) {
+        for (int i = 0; i < tries && calls < CALLS; i++) {
             String text = newText();
             due("end(0)", mint.end(0), model.end(0));
             for (int at = 0; at < text.length(); at += 8) {
@@ -189,6 +193,7 @@ public final class ModelTest {
         boolean is = random.nextInt(20) == 0;
         if (random.nextBoolean()) {
             where = mint.ahead(c, n);
+            calls++;
             is = random.nextInt(8) != 0;
         }
         switch (random.nextInt(6)) {
